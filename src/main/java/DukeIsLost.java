@@ -210,11 +210,12 @@ public final class DukeIsLost {
         int set = duchy.thought;
         int firstNone = NONE;
         int together = 0;
-        for (int i = 0; i < n; i++) {
-            weeks.layMoves(duchy.week + i);
+        // Where none is left, none is left later.
+        for (int i = 0; i < n && firstNone == NONE; i++) {
+            weeks.layMovesOf(i);
             set = weeks.spreadOf(set) & ~weeks.watched(duchy.week + i + 1);
             together += Integer.bitCount(set);
-            if (set == 0 && firstNone == NONE) {
+            if (set == 0) {
                 firstNone = i;
             }
         }
@@ -684,9 +685,11 @@ public final class DukeIsLost {
         // Where each part begins in the code, and behind the last where it ends.
         final int[] bounds = new int[PARTS + 1];
         int length;
+        boolean hasWeek;
 
         void clear() {
             length = 0;
+            hasWeek = false;
         }
 
         void beginPart(int part) {
@@ -699,6 +702,7 @@ public final class DukeIsLost {
             if (length < code.length) {
                 code[length] = item;
                 length++;
+                hasWeek = hasWeek || item == NAME_CODE - WEEK_NAME;
             }
         }
     }
@@ -726,6 +730,10 @@ public final class DukeIsLost {
             text.beginPart(SEES);
             text.add(1);
             text.beginPart(PARTS);
+        }
+
+        boolean namesWeek(int which) {
+            return within(which, many) && texts[which].hasWeek;
         }
 
         /** Whether a part of a text is true of the names as they are. */
@@ -1017,6 +1025,13 @@ public final class DukeIsLost {
             }
         }
 
+        /** Laid for week after week, moves change only by a rule that names the week. */
+        void layMovesOf(int weeksOn) {
+            if (weeksOn == 0 || book.namesWeek(duchy.rule)) {
+                layMoves(duchy.week + weeksOn);
+            }
+        }
+
         int nextFrom(int place, int week) {
             askOf(place, week, 0);
             int set = 0;
@@ -1254,7 +1269,7 @@ public final class DukeIsLost {
             firstNone = NONE;
             sumUp();
             for (int i = 0; i < row.size && firstNone == NONE; i++) {
-                weeks.layMoves(duchy.week + i);
+                weeks.layMovesOf(i);
                 goAlongMoves();
                 keepTold(row.items[i], weeks.watched(duchy.week + i + 1));
                 sumUp();
