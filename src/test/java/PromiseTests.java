@@ -250,6 +250,8 @@ public final class PromiseTests {
         fault("goes places;", 5);
         fault("goes numbers;", 5);
         fault("goes goes;", 5);
+        fault("goesz 1;", 0);
+        fault("goes toz;", 5);
         fault("goes orand;", 5);
         fault("goes 12345;", 5);
         fault("goes 00001;", 5);
@@ -296,6 +298,21 @@ public final class PromiseTests {
         fault("goes not 1<(((((1)))));", 15);
         fault("goes -((((-1))));", 10);
         fault("goes -((((not 1))));", 10);
+        // One that was closed counts no longer, and makes no room for more.
+        fault("goes (1)+((((((1))))));", 14);
+        fault("goes -1+------1;", 13);
+        fault("goes not 1 or ((((((1))))));", 19);
+        DukeIsLost y = new DukeIsLost();
+        due("open at its fault", text(y, "goes not (((((1"), -113);
+        due("not open later", text(y, "goes (((((1)))));stays 1;sees 1;"), 1);
+        String sum = "1" + "+1".repeat(60);
+        for (int i = 0; i < 6; i++) {
+            due("a long one with a fault", text(y, "goes " + sum + ";stays 1;sees 1"), -100 - 141);
+        }
+        due("a long one", text(y, "goes " + sum + ";stays 1;sees 1;"), 2);
+        y.force(2);
+        y.lane(0, 1, 1);
+        due("is read whole", y.told(0, 10), 3);
         // An open one of an earlier part is no longer open.
         due("parts", text(x, "goes (((((1)))));stays (((((1)))));sees (((((1)))));"), 5);
     }
@@ -580,6 +597,14 @@ public final class PromiseTests {
         due("none such", x.shut(-1, 0), BAD);
         due("what", x.shut(0, 2), BAD);
         due("what", x.shut(0, -1), BAD);
+        DukeIsLost first = duchy("01 12 02");
+        first.finder(0, 0, 0);
+        first.set(3, 0, 7);
+        due("SHUT as the first call", first.shut(0, 0), 1);
+        DukeIsLost still = duchy("01");
+        still.finder(0, 0, 0);
+        still.set(3, 0, 3);
+        due("SURE as so, as the first call", still.shut(0, 1), 2);
         DukeIsLost y = duchy("12 23 34");
         y.finder(0, 0, 3);
         y.set(3, 0, 4);
