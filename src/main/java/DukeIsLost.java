@@ -23,6 +23,8 @@ public final class DukeIsLost {
     // What set() and told() ask for, by number.
     private static final int OF_WEEK = 0, OF_POSE = 1, OF_DUKE = 2, OF_THOUGHT = 3, OF_NUMBER = 4, OF_AT = 5;
     private static final int OF_KIND = 6, OF_FOUND = 7, OF_EYES = 8, OF_BESIDE = 9, OF_AFTER = 10;
+    // Beside these, for tells(): THE RULE.
+    private static final int OF_RULE = 11;
     private static final int[] SET_BELOW = {1000, 10, 8, 256, 10, 8};
 
     private static final int FINDER = 0, FARMER = 1, MINTER = 2, DOG = 3, CLERK = 4;
@@ -72,7 +74,7 @@ public final class DukeIsLost {
         tape = new Tape();
         weeks = new Weeks(duchy, book);
         hunt = new Hunt(duchy, weeks);
-        telling = new Telling(duchy, book, weeks);
+        telling = new Telling(duchy, weeks);
         draw = new Draw(duchy, weeks);
         rows = new Row[SHEETS];
         for (int i = 0; i < SHEETS; i++) {
@@ -317,10 +319,10 @@ public final class DukeIsLost {
             return refusal;
         }
         if (what == 3) {
-            return telling.posesBy(row);
+            return telling.fitting(row, NONE, OF_POSE, POSES);
         }
         if (what == 4) {
-            return telling.textsBy(row);
+            return telling.fitting(row, NONE, OF_RULE, book.many);
         }
         telling.follow(row);
         if (what == 0) {
@@ -338,8 +340,10 @@ public final class DukeIsLost {
         if (refusal != 0) {
             return refusal;
         }
-        Finder one = duchy.finders[finder];
-        return what == 0 ? telling.kindsBy(row, one) : telling.numbersBy(row, one);
+        if (what == 0) {
+            return telling.fitting(row, finder, OF_KIND, KINDS);
+        }
+        return telling.fitting(row, finder, OF_NUMBER, NUMBERS);
     }
 
     public int film(int sheet, int seed, int n) {
@@ -628,6 +632,8 @@ public final class DukeIsLost {
                     return duke;
                 case OF_THOUGHT:
                     return thought;
+                case OF_RULE:
+                    return rule;
                 default:
                     return within(of, many) ? knownOf(finders[of], what) : BAD;
             }
@@ -662,6 +668,9 @@ public final class DukeIsLost {
                 case OF_THOUGHT:
                     thought = v;
                     break;
+                case OF_RULE:
+                    rule = v;
+                    break;
                 default:
                     if (within(of, many)) {
                         becomeOf(finders[of], what, v);
@@ -675,6 +684,8 @@ public final class DukeIsLost {
                 one.number = v;
             } else if (what == OF_AT) {
                 one.at = v;
+            } else if (what == OF_KIND) {
+                one.kind = v;
             }
         }
     }
@@ -1246,7 +1257,6 @@ public final class DukeIsLost {
     /** Weeks of sightings read back. */
     private static final class Telling {
         private final Duchy duchy;
-        private final Book book;
         private final Weeks weeks;
         // Of each place, at which places he could have been at first, if he is there at last.
         private int[] starts = new int[PLACES];
@@ -1255,9 +1265,8 @@ public final class DukeIsLost {
         int now;
         int firstNone;
 
-        Telling(Duchy duchy, Book book, Weeks weeks) {
+        Telling(Duchy duchy, Weeks weeks) {
             this.duchy = duchy;
-            this.book = book;
             this.weeks = weeks;
         }
 
@@ -1316,56 +1325,18 @@ public final class DukeIsLost {
             }
         }
 
-        int posesBy(Row row) {
-            int was = duchy.pose;
-            int set = 0;
-            for (int k = 0; k < POSES; k++) {
-                duchy.pose = k;
+        /** The values below 'below' (bits) by which some place is left, were what is asked for each of them. */
+        int fitting(Row row, int of, int what, int below) {
+            int was = duchy.known(of, what);
+            int fits = 0;
+            for (int v = 0; v < below; v++) {
+                duchy.become(of, what, v);
                 if (follow(row)) {
-                    set |= 1 << k;
+                    fits |= 1 << v;
                 }
             }
-            duchy.pose = was;
-            return set;
-        }
-
-        int textsBy(Row row) {
-            int was = duchy.rule;
-            int set = 0;
-            for (int k = 0; k < book.many; k++) {
-                duchy.rule = k;
-                if (follow(row)) {
-                    set |= 1 << k;
-                }
-            }
-            duchy.rule = was;
-            return set;
-        }
-
-        int kindsBy(Row row, Finder one) {
-            int was = one.kind;
-            int set = 0;
-            for (int k = 0; k < KINDS; k++) {
-                one.kind = k;
-                if (follow(row)) {
-                    set |= 1 << k;
-                }
-            }
-            one.kind = was;
-            return set;
-        }
-
-        int numbersBy(Row row, Finder one) {
-            int was = one.number;
-            int set = 0;
-            for (int k = 0; k < NUMBERS; k++) {
-                one.number = k;
-                if (follow(row)) {
-                    set |= 1 << k;
-                }
-            }
-            one.number = was;
-            return set;
+            duchy.become(of, what, was);
+            return fits;
         }
     }
 
