@@ -1,53 +1,5 @@
 // Each promise of the document: ordinary inputs, the edges that it names, wrong inputs.
-public final class PromiseTests {
-    private static final int NONE = -1, BAD = -2, STATE = -3, FULL = -4;
-    private static final int NOTHING = -11, OUTSIDE = -12, OTHER = -13, SMALL = -14;
-    private static final int MIN = Integer.MIN_VALUE, MAX = Integer.MAX_VALUE;
-
-    private static int promise;
-    private static int rows;
-    private static int wrong;
-
-    private static void due(String call, long got, long want) {
-        rows++;
-        if (got != want) {
-            wrong++;
-            System.out.println("promise " + promise + ": " + call + " answered " + got + ", due is " + want);
-        }
-    }
-
-    /** The tape is fed with a text; its answer. */
-    private static int text(DukeIsLost x, String text) {
-        for (int i = 0; i < text.length(); i++) {
-            x.feed(text.charAt(i));
-        }
-        return x.text();
-    }
-
-    private static void rule(DukeIsLost x, String text) {
-        int number = text(x, text);
-        due("text " + text + " has no fault", number > 0 ? 1 : number, 1);
-        x.force(number);
-    }
-
-    /** A duchy whose lanes are told as pairs of digits. */
-    private static DukeIsLost duchy(String lanes) {
-        DukeIsLost x = new DukeIsLost();
-        for (String lane : lanes.trim().split(" +")) {
-            if (!lane.isEmpty()) {
-                x.lane(lane.charAt(0) - '0', lane.charAt(1) - '0', 1);
-            }
-        }
-        return x;
-    }
-
-    private static void row(DukeIsLost x, int sheet, int sort, int... items) {
-        x.sheet(sheet, sort, items.length);
-        for (int i = 0; i < items.length; i++) {
-            x.cell(sheet, i, items[i]);
-        }
-    }
-
+public final class PromiseTests extends Bench {
     private static void promise1() {
         DukeIsLost x = new DukeIsLost();
         due("count(0)", x.count(0), 0);
@@ -306,7 +258,7 @@ public final class PromiseTests {
         due("open at its fault", text(y, "goes not (((((1"), -113);
         due("not open later", text(y, "goes (((((1)))));stays 1;sees 1;"), 1);
         String sum = "1" + "+1".repeat(60);
-        for (int i = 0; i < 6; i++) {
+        for (int i = 0; i < 2; i++) {
             due("a long one with a fault", text(y, "goes " + sum + ";stays 1;sees 1"), -100 - 141);
         }
         due("a long one", text(y, "goes " + sum + ";stays 1;sees 1;"), 2);
@@ -409,10 +361,6 @@ public final class PromiseTests {
         due("WEEK as it is, both times", x.spread(5, 2), 0);
         x.set(0, 0, 3);
         due("WEEK as it is, both times", x.spread(5, 2), 8);
-    }
-
-    private static int z(int seed) {
-        return seed * 1103515245 + 12345;
     }
 
     private static void promise10() {
@@ -1083,37 +1031,34 @@ public final class PromiseTests {
     }
 
     public static void main(String[] args) {
-        promise = 1; promise1();
-        promise = 2; promise2();
-        promise = 3; promise3();
-        promise = 4; promise4();
-        promise = 5; promise5();
-        promise = 6; promise6();
-        promise = 7; promise7();
-        promise = 8; promise8();
-        promise = 9; promise9();
-        promise = 10; promise10();
-        promise = 11; promise11();
-        promise = 12; promise12();
-        promise = 13; promise13();
-        promise = 14; promise14();
-        promise = 15; promise15();
-        promise = 16; promise16();
-        promise = 17; promise17();
-        promise = 18; promise18();
-        promise = 19; promise19();
-        promise = 20; promise20();
-        promise = 21; promise21();
-        promise = 22; promise22and23();
-        promise = 24; promise24();
-        promise = 25; promise25();
-        promise = 26; promise26();
-        promise = 27; promise27();
-        promise = 28; promise28();
-        promise = 29; promise29();
-        System.out.println(wrong == 0 ? rows + " answers are as due" : wrong + " answers are not as due");
-        if (wrong != 0) {
-            System.exit(1);
-        }
+        begin("promise 1"); promise1();
+        begin("promise 2"); promise2();
+        begin("promise 3"); promise3();
+        begin("promise 4"); promise4();
+        begin("promise 5"); promise5();
+        begin("promise 6"); promise6();
+        begin("promise 7"); promise7();
+        begin("promise 8"); promise8();
+        begin("promise 9"); promise9();
+        begin("promise 10"); promise10();
+        begin("promise 11"); promise11();
+        begin("promise 12"); promise12();
+        begin("promise 13"); promise13();
+        begin("promise 14"); promise14();
+        begin("promise 15"); promise15();
+        begin("promise 16"); promise16();
+        begin("promise 17"); promise17();
+        begin("promise 18"); promise18();
+        begin("promise 19"); promise19();
+        begin("promise 20"); promise20();
+        begin("promise 21"); promise21();
+        begin("promises 22, 23"); promise22and23();
+        begin("promise 24"); promise24();
+        begin("promise 25"); promise25();
+        begin("promise 26"); promise26();
+        begin("promise 27"); promise27();
+        begin("promise 28"); promise28();
+        begin("promise 29"); promise29();
+        end("29 promises");
     }
 }

@@ -147,6 +147,31 @@ public final class SureSentences extends Bench {
         due("1, 2", x.sure(0, 40, 1), 23);
         x.set(3, 0, 5);
         due("0, 2", x.sure(0, 40, 1), 13);
+        // All eight, with a lane from each to each.
+        DukeIsLost y = new DukeIsLost();
+        for (int a = 0; a < 8; a++) {
+            for (int b = 0; b < a; b++) {
+                y.lane(a, b, 1);
+            }
+        }
+        rule(y, "goes 0;stays 1;sees 1;");
+        y.finder(0, 0, 7);
+        due("0 .. 7", y.sure(0, 40, 1), 12345678);
+    }
+
+    @Holds("the fewest WEEKS (0 .. n) in which")
+    static void terms_sureOfEightWhoStay() {
+        // Seven ends around 0: one looks at each, and passes 0 between.
+        DukeIsLost x = duchy("01 02 03 04 05 06 07");
+        rule(x, "goes 0;stays 1;sees 1;");
+        x.finder(0, 0, 0);
+        due("SURE", x.sure(0, 40, 0), 13);
+        due("n 13", x.sure(0, 13, 0), 13);
+        due("n 12", x.sure(0, 12, 0), NONE);
+        x.set(3, 0, 254 - 128);
+        due("six ends", x.sure(0, 40, 0), 11);
+        x.set(3, 0, 2 + 4 + 8 + 16);
+        due("four ends", x.sure(0, 40, 1), 2131415);
     }
 
     @Holds("as digits (1 more than each, the first the highest; above 9 WEEKS NONE)")
@@ -315,6 +340,17 @@ public final class SureSentences extends Bench {
         due("1", x.look(1, 0), 1);
         due("2", x.look(2, 0), 3);
         due("3", x.look(3, 0), 7);
+        // Wherever one looks, all are left.
+        DukeIsLost all = new DukeIsLost();
+        for (int a = 0; a < 8; a++) {
+            for (int b = 0; b < a; b++) {
+                all.lane(a, b, 1);
+            }
+        }
+        for (int n = 1; n < 4; n++) {
+            due("of like ones, n " + n, all.look(n, 0), (1 << n) - 1);
+            due("all are left, n " + n, all.look(n, 1), 8);
+        }
         x.set(3, 0, 0xF0);
         due("1", x.look(1, 0), 16);
         due("2", x.look(2, 0), 48);

@@ -99,6 +99,11 @@ public final class TextSentences extends Bench {
         fault("goes placE;", 5);
         fault("goes a;", 5);
         fault("goes z;", 5);
+        fault("goes placez;", 5);
+        fault("goes aplace;", 5);
+        fault("goes zplace;", 5);
+        fault("goesz 1;", 0);
+        fault("goes 1 az 1;", 7);
         fault("goes " + (char) 233 + ";", 5);
     }
 
@@ -168,7 +173,10 @@ public final class TextSentences extends Bench {
         fault("1;stays 0;sees 1;", 0);
         fault("goes 1;;stays 0;sees 1;", 7);
         fault("goes 1;stays 0;sees 1;;", 22);
-        fault("goes 1;stays 0;sees 1;goes 1;", 22);
+        for (String token : new String[] {"goes", "or", "not", "place", "1", "(", ")", ";", "+", "-", "<", "="}) {
+            fault(PLAIN + token, 22);
+            fault(PLAIN + " " + token, 23);
+        }
         fault(";", 0);
     }
 
@@ -234,6 +242,8 @@ public final class TextSentences extends Bench {
         value("10-3+2", 9);
         value("2+3*4", 14);
         value("2*3+4", 10);
+        value("20-2*3", 14);
+        value("20*2-3", 37);
         value("1-1-1-1", -2);
         fault("goes +1;", 5);
         fault("goes 1++1;", 7);
@@ -285,6 +295,9 @@ public final class TextSentences extends Bench {
             fault("goes " + name.substring(1) + ";", 5);
             fault("goes " + name.substring(0, name.length() - 1) + ";", 5);
             fault(name + " 1;", 0);
+            for (int i = 0; i < name.length(); i++) {
+                fault("goes " + name.substring(0, i) + "x" + name.substring(i + 1) + ";", 5);
+            }
         }
     }
 
@@ -301,8 +314,14 @@ public final class TextSentences extends Bench {
         }
         fault("go 1;", 0);
         fault("goess 1;", 0);
+        fault("xoes 1;", 0);
         fault("goes 1;stay 1;", 7);
+        fault("goes 1;xtays 1;", 7);
+        fault("goes 1;stays 1;xees 1;", 15);
         fault("goes 1 nor 1;", 7);
+        fault("goes 1 xr 1;", 7);
+        fault("goes 1 xnd 1;", 7);
+        fault("goes xot 1;", 5);
     }
 
     @Holds("An E is an int (32 bits, wrapping)")
@@ -396,6 +415,15 @@ public final class TextSentences extends Bench {
         fault("goes 1;stays 0;sees 1;duke", 22);
         fault("goes numbers;", 5);
         fault("goes " + "a".repeat(155), 5);
+        // Whatever stands ahead of it.
+        fault("goes 1-duke 2;", 7);
+        fault("goes -duke 2;", 6);
+        fault("goes not duke 1;", 9);
+        fault("goes (duke 1));", 6);
+        fault("goes ((1) duke;", 10);
+        fault("goes 1+duke;", 7);
+        fault("goes 1 and duke;", 11);
+        fault("goes place duke;", 11);
     }
 
     @Holds("a NUMBER that is too long")
@@ -664,6 +692,14 @@ public final class TextSentences extends Bench {
         due("TEXT 0 is as it was", x.told(0, 10), 2);
         due("none such", x.force(1), BAD);
         due("the next has its number", text(x, PLAIN), 1);
+        // However much was read of them.
+        DukeIsLost y = duchy("01");
+        String sum = "1" + "-1".repeat(32);
+        for (int i = 0; i < 5; i++) {
+            due("a long one with a fault", text(y, "goes " + sum + ";stays"), -100 - 76);
+        }
+        rule(y, "goes 1;stays 1-1;sees 1;");
+        due("the next is read whole", y.told(0, 10), 2);
     }
 
     @Holds("FULL: no TEXT more has room (THE TAPE stays).")

@@ -84,12 +84,13 @@ public final class ToldSentences extends Bench {
 
     @Holds("the first number (from 0) by which there is none; NONE")
     static void terms_toldTheFirstByWhichThereIsNone() {
-        DukeIsLost x = pair();
         for (int i = 0; i < 30; i++) {
-            comesAndGoes(x, 30);
-            x.cell(0, i, 8);
-            due("number " + i, x.tells(0, 2), i);
+            DukeIsLost y = pair();
+            comesAndGoes(y, 30);
+            y.cell(0, i, 8);
+            due("number " + i, y.tells(0, 2), i);
         }
+        DukeIsLost x = pair();
         comesAndGoes(x, 30);
         due("NONE", x.tells(0, 2), NONE);
         // 1 twice can't be, by either of the two it is the later one.

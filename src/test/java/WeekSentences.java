@@ -56,6 +56,13 @@ public final class WeekSentences extends Bench {
         due("in WEEK 2 he goes", x.run(3, 0), 5);
         due("in WEEK 3 he stays", x.run(4, 0), 5);
         due("WEEK itself is as it was", x.told(0, 0), 0);
+        // Of week alone: 0 isn't true, 1 is.
+        DukeIsLost y = duchy("01 12 23");
+        y.set(3, 0, 1);
+        rule(y, "goes week;stays week;sees week;");
+        due("in WEEK 0 he stays", y.run(1, 0), 1);
+        due("in WEEK 1 he goes or stays", y.run(2, 0), 3);
+        due("in WEEK 2, too", y.run(3, 0), 7);
     }
 
     @Holds("then all FINDERS LOOK (told as WEEK is then)")

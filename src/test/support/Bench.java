@@ -6,7 +6,7 @@ import java.util.List;
 import java.util.function.Supplier;
 import java.util.function.ToLongFunction;
 
-/** What the tests of sentences share: duchies to begin with, what is due, the running of all of them. */
+/** What tests share: duchies to begin with, what is due, refusals, the running of all tests of sentences. */
 public abstract class Bench {
     static final int NONE = -1, BAD = -2, STATE = -3, FULL = -4;
     static final int NOTHING = -11, OUTSIDE = -12, OTHER = -13, SMALL = -14;
@@ -14,7 +14,7 @@ public abstract class Bench {
     static final int BYTES = 0, SHORTS = 1, INTS = 2, MISSING = -1;
     static final String PLAIN = "goes 1;stays 0;sees 1;";
 
-    private static Method test;
+    private static String title = "";
     private static int rows;
     private static int wrong;
 
@@ -27,8 +27,20 @@ public abstract class Bench {
 
     private static void tell(String fault) {
         wrong++;
-        String held = test.getAnnotation(Holds.class).value();
-        System.out.println(test.getName() + " [" + held + "]: " + fault);
+        System.out.println(title + ": " + fault);
+    }
+
+    /** What is due from here on is told of by this title. */
+    static void begin(String newTitle) {
+        title = newTitle;
+    }
+
+    /** All rows were looked at: exit code 1 if one was wrong. */
+    static void end(String what) {
+        System.out.println(what + ", " + rows + " rows, " + wrong + " wrong");
+        if (wrong != 0 || rows == 0) {
+            System.exit(1);
+        }
     }
 
     // ---- beginnings
@@ -230,13 +242,10 @@ public abstract class Bench {
         }
         found.sort(Comparator.comparing(Method::getName));
         for (Method m : found) {
-            test = m;
+            begin(m.getName() + " [" + m.getAnnotation(Holds.class).value() + "]");
             runOne(m);
         }
-        System.out.println(found.size() + " tests of sentences, " + rows + " rows, " + wrong + " wrong");
-        if (wrong != 0 || found.isEmpty()) {
-            System.exit(1);
-        }
+        end(found.size() + " tests of sentences");
     }
 
     private static void runOne(Method m) {
