@@ -123,7 +123,7 @@ public abstract class Bench {
         x.image();
         x.set(0, 0, 999);
         for (int i = 0; i < 160; i++) {
-            x.feed('a');
+            x.feed(i < PLAIN.length() ? PLAIN.charAt(i) : ' ');
         }
         return x;
     }
