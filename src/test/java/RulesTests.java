@@ -122,6 +122,37 @@ public final class RulesTests {
         due("public classes", code.split("\\bclass\\b", -1).length - 1, 1 + DukeIsLost.class.getDeclaredClasses().length);
     }
 
+    /** A method begins in a line that ends in ") {", and ends with a brace as far in as that line. */
+    private static void lengths() throws Exception {
+        String[] lines = Files.readString(Path.of("src/main/java/DukeIsLost.java")).split("\n");
+        Pattern head = Pattern.compile("( {4}| {8})\\w.*\\) \\{");
+        int methods = 0;
+        for (int i = 0; i < lines.length; i++) {
+            Matcher m = head.matcher(lines[i]);
+            if (m.matches() && !lines[i].matches(" *(if|for|while|switch)\\b.*")) {
+                int last = i;
+                while (last < lines.length && !lines[last].equals(m.group(1) + "}")) {
+                    last++;
+                }
+                dueAtMost("lines of '" + lines[i].trim() + "'", last - i + 1, 60);
+                methods++;
+            }
+        }
+        int declared = methodsOf(DukeIsLost.class);
+        for (Class<?> c : DukeIsLost.class.getDeclaredClasses()) {
+            declared += methodsOf(c);
+        }
+        due("methods whose lines were counted", methods, declared);
+    }
+
+    /** Its methods and those constructors that are written out. */
+    private static int methodsOf(Class<?> of) throws Exception {
+        String source = Files.readString(Path.of("src/main/java/DukeIsLost.java"));
+        String head = "(?m)^ +(public )?" + of.getSimpleName() + "\\(.*\\) \\{$";
+        int constructors = (int) Pattern.compile(head).matcher(source).results().count();
+        return of.getDeclaredMethods().length + constructors;
+    }
+
     /** Objects and arrays that hang on a new one, and their fields and elements. */
     private static void room() throws Exception {
         Deque<Object> open = new ArrayDeque<>();
@@ -235,6 +266,7 @@ public final class RulesTests {
     public static void main(String[] args) throws Exception {
         face();
         words();
+        lengths();
         room();
         noneThrows();
         nothingMade();
